@@ -15,6 +15,7 @@ public final class RoundEndTest {
         askedTooMuch();
         pricesRiseAndFall();
         pricesWithinTheirBounds();
+        hundredthsAreExact();
         pricesWithNoneLeft();
         bidsAreGone();
         roundsEndAt49();
@@ -128,6 +129,11 @@ public final class RoundEndTest {
         CHECKS.due("holds 24", sale.holds(24, 0, 1), 20);
         CHECKS.due("points of the fund", sale.purse(24, 0), 0);
         CHECKS.due("price stays", sale.about(0, 2), 3);
+        CouponSale single = sale("", 10, 3, 3);
+        single.bid(2, 0, 1);
+        CHECKS.due("one share asked by one", single.close(), 1);
+        CHECKS.due("that one has it", single.holds(2, 0, 1), 1);
+        CHECKS.due("nobody else has", single.purse(0, 4), 0);
     }
 
     private static void theEdgeOfCuttingBack() {
@@ -236,6 +242,34 @@ public final class RoundEndTest {
         most.bid(24, 0, 4);
         most.close();
         CHECKS.due("9999 at most", most.about(0, 2), 9999);
+    }
+
+    /** Numbers for which a part by 99 or by 101 would be another one. */
+    private static void hundredthsAreExact() {
+        CouponSale reserve = new CouponSale();
+        Checks.rules(reserve, "workers 1;");
+        reserve.work(198, 10);
+        reserve.person(0);
+        reserve.bid(0, 0, 5);
+        reserve.close();
+        CHECKS.due("a reserve of 1.98", reserve.purse(0, 0), 1000 - 5 - 40);
+        CouponSale half = new CouponSale();
+        Checks.rules(half, "workers 50;");
+        half.work(2, 202);
+        half.person(0);
+        half.bid(0, 0, 1);
+        half.close();
+        CHECKS.due("half of 202", half.purse(0, 0), 899);
+        CHECKS.due("fall of 202", half.about(0, 2), 101);
+        CouponSale cut = sale("cut 1;", 198, 1, 1);
+        cut.bid(0, 0, 200);
+        CHECKS.due("two above 198", cut.close(), 0);
+        cut.bid(0, 0, 199);
+        CHECKS.due("one above 198", cut.close(), 198);
+        CouponSale rise = sale("rise 100;", 1, 99, 1);
+        rise.bid(0, 0, 10);
+        rise.close();
+        CHECKS.due("rise of 99", rise.about(0, 2), 99);
     }
 
     private static void pricesWithNoneLeft() {

@@ -143,6 +143,10 @@ public final class RulesTest {
         dueFault("cut 7 half 7;", 6, 1);
         dueFault("cu 7;", 0, 1);
         dueFault("cutt 7;", 0, 1);
+        dueFault("cutz 7;", 0, 1);
+        dueFault("acut 7;", 0, 1);
+        dueFault("but 7;", 0, 1);
+        dueFault("cuz 7;", 0, 1);
         dueFault("least 5;worker 7;", 8, 1);
     }
 

@@ -88,6 +88,14 @@ public final class TellingTest {
             // 50 at 5 and 400: 650 is 72.2 hundredths of 900
             CHECKS.due("promise " + row[0], other.purse(24, 3), row[1]);
         }
+        CouponSale edge = new CouponSale();
+        edge.person(-1);
+        edge.fund(101);
+        edge.fund(100);
+        edge.give(0, 24, 100);
+        edge.give(0, 25, 100);
+        CHECKS.due("one point too few", edge.purse(24, 3), 0);
+        CHECKS.due("just as many", edge.purse(25, 3), 1);
         CouponSale empty = new CouponSale();
         empty.fund(500);
         CHECKS.due("of nothing given", empty.purse(24, 3), 1);
@@ -174,14 +182,14 @@ public final class TellingTest {
         dueOwned(sale, 2, 0, 1, 0, 1);
         dueOwned(sale, 0, 1, 1, 1, 3);
         dueOwned(sale, 1, 1, 1, 2, 3);
-        sale.bid(2, 0, 1);
+        sale.bid(2, 0, 2);
         sale.fund(0);
         sale.person(-1);
         sale.work(5, 1);
         sale.bid(2, 2, 5);
         sale.close();
         dueOwned(sale, 0, 0, 2, 1, 6);
-        dueOwned(sale, 2, 0, 2, 1, 100);
+        dueOwned(sale, 2, 0, 2, 1, 50);
         dueOwned(sale, 2, 0, 1, 0, 1);
         dueOwned(sale, 2, 2, 2, 1, 1);
         dueOwned(sale, 2, 2, 0, 0, 1);
