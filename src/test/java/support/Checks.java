@@ -16,19 +16,53 @@ final class Checks {
         if (got == want) {
             right++;
         } else {
-            wrong++;
-            System.out.println(what + " answered " + got + ", due is " + want);
+            wrong(what + " answered " + got + ", due is " + want);
         }
+    }
+
+    void due(String what, boolean got, boolean want) {
+        due(what, got ? 1 : 0, want ? 1 : 0);
     }
 
     void dueThrow(String what, Call call) {
         try {
             long got = call.answer();
-            wrong++;
-            System.out.println(what + " answered " + got + ", due is NoSuchElementException");
+            wrong(what + " answered " + got + ", due is NoSuchElementException");
         } catch (NoSuchElementException e) {
             right++;
         }
+    }
+
+    /** A call that answers as due, and all that can be asked of the sale is then as it was ahead of it. */
+    void dueAndAllStays(String what, CouponSale sale, Call call, long want) {
+        Snapshot ahead = new Snapshot(sale);
+        due(what, call.answer(), want);
+        dueAllStays(what, ahead, new Snapshot(sale));
+    }
+
+    /** A call that throws, and all that can be asked of the sale is then as it was ahead of it. */
+    void dueThrowAndAllStays(String what, CouponSale sale, Call call) {
+        Snapshot ahead = new Snapshot(sale);
+        dueThrow(what, call);
+        dueAllStays(what, ahead, new Snapshot(sale));
+    }
+
+    private void dueAllStays(String what, Snapshot ahead, Snapshot behind) {
+        String difference = ahead.differenceFrom(behind);
+        if (difference.isEmpty()) {
+            right++;
+        } else {
+            wrong(what + " changed " + difference);
+        }
+    }
+
+    void wrong(String what) {
+        wrong++;
+        System.out.println(what);
+    }
+
+    boolean isAllRight() {
+        return wrong == 0 && right > 0;
     }
 
     void finish() {
