@@ -5,6 +5,9 @@ import java.util.Random;
 /** All promises: runs of up to 512 calls with seeded numbers, against the model of the document. */
 public final class RandomRunsTest {
     private static final int RUNS = 4000;
+    private static final int CALLS_OF_AN_OBJECT = 512;
+    /** feed for some 220 bytes (those beyond 140 are refused), end, rules, fault, rule six times. */
+    private static final int MOST_CALLS_OF_A_TEXT = 24;
     private static final long THROWN = Long.MIN_VALUE + 7;
     private static final int[] WILD = {Integer.MIN_VALUE, Integer.MAX_VALUE, -1, -2, 0, 1, 23, 24, 27, 28, 50, 1000, 1001};
     private static final String[] PIECES = {"workers", "half", "cut", "rise", "fall", "least", ";", ";", "0", "1", "7",
@@ -14,6 +17,7 @@ public final class RandomRunsTest {
     private final Random random;
     private final CouponSale sale = new CouponSale();
     private final ModelSale model = new ModelSale();
+    private int calls;
     private String last;
 
     private RandomRunsTest(long seed) {
@@ -32,11 +36,12 @@ public final class RandomRunsTest {
     }
 
     private boolean run(int run) {
-        boolean fewRounds = random.nextBoolean();
-        for (int call = 0; call < 512; call++) {
-            long difference = call < 40 ? make() : play(fewRounds ? 120 : 15);
+        // Not by chance: the first numbers of near seeds are much alike.
+        boolean fewRounds = run % 2 == 0;
+        while (calls + MOST_CALLS_OF_A_TEXT <= CALLS_OF_AN_OBJECT) {
+            long difference = calls < 100 ? make() : play(fewRounds ? 80 : 5);
             if (difference != 0) {
-                System.out.println("run " + run + ", call " + call + ": " + last);
+                System.out.println("run " + run + ", call " + calls + ": " + last);
                 return false;
             }
         }
@@ -111,8 +116,8 @@ public final class RandomRunsTest {
 
     private long bid() {
         int bidder = bidder();
-        int w = pick(random.nextInt(Math.max(1, sale.count(1))));
-        int shares = pick(random.nextInt(random.nextInt(4) == 0 ? 1001 : 1 + Math.max(1, sale.about(w, 1))));
+        int w = pick(random.nextInt(Math.max(1, model.count(1))));
+        int shares = pick(random.nextInt(random.nextInt(4) == 0 ? 1001 : 1 + Math.max(1, model.about(w, 1))));
         return same("bid " + bidder + " " + w + " " + shares, sale.bid(bidder, w, shares), model.bid(bidder, w, shares));
     }
 
@@ -137,7 +142,7 @@ public final class RandomRunsTest {
     private long owned() {
         int person = person0();
         int w = pick(random.nextInt(10));
-        int round = pick(random.nextInt(sale.count(0) + 1));
+        int round = pick(random.nextInt(model.count(0) + 1));
         int what = pick(random.nextInt(2));
         long got;
         long want;
@@ -157,7 +162,7 @@ public final class RandomRunsTest {
     private long tell() {
         int bidder = bidder();
         int w = pick(random.nextInt(10));
-        int round = pick(random.nextInt(sale.count(0) + 2));
+        int round = pick(random.nextInt(model.count(0) + 2));
         int what = pick(random.nextInt(7));
         switch (random.nextInt(6)) {
             case 0:
@@ -225,7 +230,7 @@ public final class RandomRunsTest {
     }
 
     private int person0() {
-        return pick(random.nextInt(1 + Math.max(1, sale.count(2))));
+        return pick(random.nextInt(1 + Math.max(1, model.count(2))));
     }
 
     private int pick(int usual) {
@@ -233,6 +238,7 @@ public final class RandomRunsTest {
     }
 
     private long same(String call, long got, long want) {
+        calls++;
         if (got != want) {
             last = call + " answered " + got + ", the model " + want;
         }

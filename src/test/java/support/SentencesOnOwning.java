@@ -49,6 +49,13 @@ final class SentencesOnOwning {
         // who comes later owns nothing through a FUND
         sale.person(CouponSale.NONE);
         dueOwned(checks, sale, new int[] {3, 0, 2}, 0, 1);
+        // the least gift
+        CouponSale least = Sales.of("", 2, 1, 1);
+        least.fund(0);
+        least.give(0, 24, 1);
+        least.bid(24, 0, 1);
+        least.close();
+        dueOwned(checks, least, new int[] {0, 0, 1}, 1, 2);
     }
 
     @Says(where = "Terms", words = "A fraction is told by two numbers without a divisor in common:"

@@ -70,6 +70,10 @@ final class SentencesOnRuleCalls {
         checks.due("cut", sale.rule(2), 7);
         checks.due("half", sale.rule(1), 50);
         checks.due("fall", sale.rule(4), 9);
+        // an end within a TOKEN: its other bytes do not go it on
+        Checks.tape(sale, "cut 7;halfx");
+        sale.end(10);
+        checks.due("rules of 'cut 7;half'", sale.rules(), -11);
         Checks.tape(sale, "####");
         checks.due("end(0) of 4", sale.end(0), true);
         checks.due("an empty tape", sale.count(5), 0);

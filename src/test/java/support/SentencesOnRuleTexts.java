@@ -35,8 +35,10 @@ final class SentencesOnRuleTexts {
             dueFault(checks, (char) sign + "all 7;", 0, 1);
             dueFault(checks, "fal" + (char) sign + " 7;", 0, 1);
         }
+        // each small letter goes on a WORD, and is no NUMBER
         for (char sign = 'a'; sign <= 'z'; sign++) {
-            dueFault(checks, "cut " + sign + "#", 4, 1);
+            dueFault(checks, "cut" + sign + " 7;", 0, 1);
+            dueFault(checks, "cut " + sign + ";", 4, 1);
         }
     }
 
@@ -109,6 +111,9 @@ final class SentencesOnRuleTexts {
             dueFault(checks, word + "s 7;", 0, 1);
             dueFault(checks, word.substring(1) + " 7;", 0, 1);
             dueFault(checks, word.substring(0, word.length() - 1) + " 7;", 0, 1);
+            for (int i = 0; i < word.length(); i++) {
+                dueFault(checks, word.substring(0, i) + "x" + word.substring(i + 1) + " 7;", 0, 1);
+            }
         }
         dueFault(checks, "7;", 0, 1);
         dueFault(checks, "7 cut;", 0, 1);

@@ -212,7 +212,9 @@ final class SentencesOnTakingPart {
         sale.work(1000, 7);
         sale.bid(0, 0, 100);
         sale.bid(0, 1, 50);
-        // 650 of 1000
+        // 650 of 1000; with 650 more the greatest numbers would be below 0
+        checks.due("the greatest number", sale.give(0, 24, Sales.HIGH), -1);
+        checks.due("nearly the greatest number", sale.give(0, 24, Sales.HIGH - 600), -1);
         checks.dueAndAllStays("one more than is beyond", sale, () -> sale.give(0, 24, 351), -1);
         checks.due("just what is beyond", sale.give(0, 24, 350), 350);
         checks.due("nothing is beyond", sale.give(0, 24, 1), -1);
@@ -316,6 +318,9 @@ final class SentencesOnTakingPart {
         checks.due("sold in all", sale.count(4), 7);
         checks.due("without BIDS", sale.close(), 0);
         checks.due("ROUND then", sale.count(0), 2);
+        sale.bid(0, 2, 1);
+        checks.due("one more", sale.close(), 1);
+        checks.due("sold in all then", sale.count(4), 8);
         checks.due("without WORKS", new CouponSale().close(), 0);
     }
 

@@ -146,20 +146,21 @@ final class SentencesOnTerms {
 
     @Says(where = "Terms", words = "One of PEOPLE may be a worker of a WORK.")
     static void oneMayBeAWorkerOfAWork(Checks checks) {
-        CouponSale sale = new CouponSale();
+        CouponSale sale = Sales.withRules("workers 50;");
         for (int w = 0; w < 10; w++) {
             sale.work(10, 10);
         }
-        checks.due("a worker of the last WORK", sale.person(9), 0);
-        checks.due("a worker of the first WORK", sale.person(0), 1);
+        checks.due("a worker of the first WORK", sale.person(0), 0);
+        checks.due("a worker of the last WORK", sale.person(9), 1);
         checks.due("a worker of none", sale.person(CouponSale.NONE), 2);
         for (int person = 0; person < 3; person++) {
-            sale.bid(person, 9, 1);
+            sale.bid(person, 0, 1);
+            sale.bid(person, 9, 2);
         }
         sale.close();
-        checks.due("its worker pays half", sale.purse(0, 0), 995);
-        checks.due("another one's worker pays all", sale.purse(1, 0), 990);
-        checks.due("who is a worker of none pays all", sale.purse(2, 0), 990);
+        checks.due("half for the first WORK, all for the last", sale.purse(0, 0), 1000 - 5 - 20);
+        checks.due("all for the first WORK, half for the last", sale.purse(1, 0), 1000 - 10 - 10);
+        checks.due("who is a worker of none pays all", sale.purse(2, 0), 1000 - 10 - 20);
     }
 
     @Says(where = "Terms", words = "ROUND is 0 at first, 49 the last one.")
@@ -180,9 +181,9 @@ final class SentencesOnTerms {
         CouponSale sale = Sales.of("", 10, 10, 2);
         sale.work(10, 10);
         sale.bid(0, 0, 4);
-        sale.bid(0, 0, 6);
+        checks.due("COST of a greater one in its place", sale.bid(0, 0, 6), 60);
         checks.due("a greater one in its place", sale.asks(0, 0), 6);
-        sale.bid(0, 0, 1);
+        checks.due("COST of a lesser one in its place", sale.bid(0, 0, 1), 10);
         checks.due("a lesser one in its place", sale.asks(0, 0), 1);
         sale.bid(0, 1, 2);
         checks.due("one of another WORK beside it", sale.asks(0, 0), 1);
@@ -206,5 +207,6 @@ final class SentencesOnTerms {
         sale.close();
         checks.due("at the PRICE as it is then", sale.bid(0, 0, 20), 1000);
         checks.due("above at the PRICE as it is then", sale.bid(0, 0, 21), -1);
+        checks.due("one SHARE less at the PRICE as it is then", sale.bid(0, 0, 19), 950);
     }
 }

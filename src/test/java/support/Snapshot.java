@@ -60,7 +60,7 @@ final class Snapshot {
         StringBuilder text = new StringBuilder();
         answers.forEach((what, answer) -> {
             if (!answer.equals(other.answers.get(what))) {
-                text.append(what).append(" from ").append(answer).append(" to ").append(other.answers.get(what)).append("; ");
+                text.append(what + " from " + answer + " to " + other.answers.get(what) + "; ");
             }
         });
         if (answers.size() != other.answers.size()) {
