@@ -55,6 +55,11 @@ final class ModelSale {
         return tape.length();
     }
 
+    /** What feed and end make of a text. */
+    void tape(String text) {
+        tape = text;
+    }
+
     boolean end(int n) {
         if (n < 0 || n > tape.length()) {
             return false;
